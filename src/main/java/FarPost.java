@@ -373,7 +373,8 @@ public final class FarPost {
     public int tight() {
         int set = counting();
         for (int slip = LAW_MOST; slip >= 0; slip--) {
-            if (!canHoldWith(set, slip)) {
+            drawChart(set, slip);
+            if (!chart.possible) {
                 return slip;
             }
         }
@@ -554,7 +555,7 @@ public final class FarPost {
         if (trouble != FINE) {
             return finding(trouble);
         }
-        canHold(counting());
+        drawChart(counting(), office.slip);
         for (int town = 1; town < sheets[s].size; town++) {
             int far = sheets[s].numbers[town] - sheets[s].numbers[0];
             chart.narrow(0, town, far, far);
@@ -632,12 +633,13 @@ public final class FarPost {
         return office.countingOn(office.day);
     }
 
-    /** Draws the chart of a set of letters: whether they can hold together in a map. */
+    /** Whether a set of letters can hold together in a map; the chart shows all such maps. */
     private boolean canHold(int set) {
-        return canHoldWith(set, office.slip);
+        drawChart(set, office.slip);
+        return chart.possible;
     }
 
-    private boolean canHoldWith(int set, int slip) {
+    private void drawChart(int set, int slip) {
         chart.clear();
         for (int i = 0; i < office.letters && chart.possible; i++) {
             if (isIn(i, set)) {
@@ -645,13 +647,12 @@ public final class FarPost {
                 chart.narrow(letter.from, letter.to, letter.least(slip), letter.most(slip));
             }
         }
-        return chart.possible;
     }
 
     /** The guess begins as a letter is; the chart shows all the other letters that count. */
     private void startGuess(int letter) {
         guess.become(office.rows[letter]);
-        canHold(without(letter, counting()));
+        drawChart(without(letter, counting()), office.slip);
     }
 
     /** Whether a map fits with the guess, where the chart shows all the other letters that count. */
